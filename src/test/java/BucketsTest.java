@@ -127,7 +127,7 @@ public final class BucketsTest {
 
     private static void keysAreCountedThroughTheBuckets() {
         ExtendiblePages x = new ExtendiblePages(200);
-        // Their hashes: 2 1 6 0 2 4 1, so the even ones are of one bucket at depth 1 no more.
+        // Their hashes are 2 1 6 0 2 4 1: five even ones, which make two buckets of depth 2.
         int[] keys = {2, 1, 6, 0, 0x80000000, 4, 64};
         for (int key : keys) {
             x.put(key, 1L);

@@ -158,6 +158,12 @@ public final class RecordsTest {
         CHECK.due("unflushed() after the 65th", x.unflushed(), 1);
         CHECK.due("crash(0)", x.crash(0), 1);
         CHECK.due("get(1)", x.get(1), 64);
+        for (int n = 1; n <= 65; n++) {
+            x.put(1, 100 + n);
+        }
+        CHECK.due("unflushed() after 65 puts", x.unflushed(), 1);
+        CHECK.due("crash(0) after 65 puts", x.crash(0), 1);
+        CHECK.due("get(1) after 65 puts", x.get(1), 164);
     }
 
     private static void aBatchFlushesTheOlder() {
