@@ -25,6 +25,7 @@ public final class ExtendiblePages {
     private static final int HASHES = 1 << HASH_BITS;
     private static final int CELLS_PER_PAGE = 16;
     private static final int KEYS_PER_PAGE = 4;
+    private static final int BYTES_WITHOUT_PAGE = 2;
     private static final int BYTES_PER_PAGE = 2;
     private static final int MOST_BYTES = 8;
 
@@ -218,17 +219,17 @@ public final class ExtendiblePages {
         return (key ^ key >>> 6 ^ key >>> 12 ^ key >>> 18 ^ key >>> 24 ^ key >>> 30) & HASHES - 1;
     }
 
-    private static int begun(int things, int perPage) {
-        return (things + perPage - 1) / perPage;
+    private static int directoryPages(int cells) {
+        return (cells + CELLS_PER_PAGE - 1) / CELLS_PER_PAGE;
     }
 
     private static int bucketPages(int keys) {
-        return Math.max(1, begun(keys, KEYS_PER_PAGE));
+        return Math.max(1, (keys + KEYS_PER_PAGE - 1) / KEYS_PER_PAGE);
     }
 
     private static int valuePages(long value) {
         int bytes = bytesOf(value);
-        return bytes > BYTES_PER_PAGE ? begun(bytes, BYTES_PER_PAGE) : 0;
+        return bytes > BYTES_WITHOUT_PAGE ? (bytes + BYTES_PER_PAGE - 1) / BYTES_PER_PAGE : 0;
     }
 
     private static int bytesOf(long value) {
@@ -353,7 +354,7 @@ public final class ExtendiblePages {
         }
 
         int pagesInUse() {
-            int pages = 1 + begun(1 << classes.deepest(), CELLS_PER_PAGE);
+            int pages = 1 + directoryPages(1 << classes.deepest());
             for (int place = 0; place < HASHES; place++) {
                 if (classes.isPlace(place)) {
                     pages += bucketPages(classes.keysOfBucket(place));
