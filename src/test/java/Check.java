@@ -1,16 +1,21 @@
 /** Counts the answers that are not as due; a test ends with its finish. */
 final class Check {
     private final String test;
+    private String words = "";
     private int wrong;
 
     Check(String test) {
         this.test = test;
     }
 
+    /** The words of the document that the answers from here on are about. */
+    void sentence(String words) {
+        this.words = words;
+    }
+
     void due(String call, long got, long want) {
         if (got != want) {
-            wrong++;
-            System.out.println(test + ": " + call + " answered " + got + ", due is " + want);
+            tell(call, Long.toString(got), Long.toString(want));
         }
     }
 
@@ -20,8 +25,7 @@ final class Check {
 
     void due(String call, String got, String want) {
         if (!got.equals(want)) {
-            wrong++;
-            System.out.println(test + ": " + call + " answered " + got + ", due is " + want);
+            tell(call, got, want);
         }
     }
 
@@ -34,5 +38,11 @@ final class Check {
         if (wrong != 0) {
             System.exit(1);
         }
+    }
+
+    private void tell(String call, String got, String want) {
+        wrong++;
+        String by = words.isEmpty() ? "" : ", by \"" + words + "\"";
+        System.out.println(test + ": " + call + " answered " + got + ", due is " + want + by);
     }
 }
